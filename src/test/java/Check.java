@@ -1,5 +1,10 @@
 /** Compares answers with those that are due; a test ends with exit code 1 if one was wrong. */
 final class Check {
+    static final Class<IndexOutOfBoundsException> PLACE = IndexOutOfBoundsException.class;
+    static final Class<IllegalArgumentException> ARGUMENT = IllegalArgumentException.class;
+    static final Class<UnsupportedOperationException> FULL =
+            UnsupportedOperationException.class;
+
     /** A call of the class under test. */
     interface Call {
         int answer();
@@ -7,8 +12,14 @@ final class Check {
 
     private static int checks = 0;
     private static int wrong = 0;
+    private static String sentence = "";
 
     private Check() {
+    }
+
+    /** Names the document's words that the checks from here on hold to. */
+    static void sentence(String words) {
+        sentence = "'" + words + "' ";
     }
 
     static void due(String what, int want, Call call) {
@@ -24,7 +35,7 @@ final class Check {
         checks++;
         if (!got.equals(want)) {
             wrong++;
-            System.out.println(what + ": answered " + got + ", due is " + want);
+            System.out.println(sentence + what + ": answered " + got + ", due is " + want);
         }
     }
 
