@@ -227,7 +227,8 @@ final class BoundariesTest {
             {1, 0, 1}, {1, 1, 3}, {1, 2, 6}, {2, 0, 5}, {3, 0, 0}, {4, 0, 2}, {4, 1, 7}, {5, 0, 4}
         };
         for (int[] one : symbolKPlace) {
-            Check.due(one[0] + " for the time " + one[1], one[2], () -> rows.select(one[0], one[1]));
+            Check.due(one[0] + " for the time " + one[1], one[2],
+                    () -> rows.select(one[0], one[1]));
         }
         LevelRows full = Rows.of(6, new int[1000]);
         for (int k : new int[] {0, 63, 64, 65, 960, 999}) {

@@ -132,7 +132,8 @@ final class ModelTest {
 
     /** Mostly a symbol, now and then the first number that is none. */
     private int symbol() {
-        return random.nextInt(150) == 0 ? sigma : (int) ((long) random.nextInt(used) * sigma / used);
+        boolean none = random.nextInt(150) == 0;
+        return none ? sigma : (int) ((long) random.nextInt(used) * sigma / used);
     }
 
     /** Mostly a place of the row or its end, often beside a word's end, seldom far away. */

@@ -66,7 +66,8 @@ final class PromisesTest {
         for (int n : new int[] {LEAST, -1, 0, 11, GREATEST}) {
             Check.thrown("P2 n " + n, Check.ARGUMENT, () -> rows.put(0, 0, 0, 0, 0, n));
         }
-        Check.thrown("P2 none of no symbols is wrong", Check.ARGUMENT, () -> rows.put(-1, -1, -1, -1, -1, 0));
+        Check.thrown("P2 none of no symbols is wrong", Check.ARGUMENT,
+                () -> rows.put(-1, -1, -1, -1, -1, 0));
         Check.thrown("P2 n below 0", Check.ARGUMENT, () -> rows.put(-1, -1, -1, -1, -1, -1));
         Check.thrown("P2 no symbol before n", Check.PLACE, () -> rows.put(0, 0, 0, 0, 6, 11));
         Check.due("P2 none waits", 0, () -> rows.count(1));

@@ -268,7 +268,8 @@ final class TermsTest {
         Check.thrown("greatest n, full", Check.ARGUMENT, () -> rows.put(0, 0, 0, 0, 0, GREATEST));
         Check.thrown("all three", Check.PLACE, () -> rows.put(0, 6, 0, 0, 0, 11));
         Check.thrown("full alone", Check.FULL, () -> rows.put(0, 0, 0, 0, 0, 6));
-        Check.thrown("the seventh is none of six", Check.FULL, () -> rows.put(0, 0, 0, 6 << 16, 0, 6));
+        Check.thrown("the seventh is none of six", Check.FULL,
+                () -> rows.put(0, 0, 0, 6 << 16, 0, 6));
         Check.due("none of them", 600, () -> rows.put(0, 0, 0, 0, 0, 5));
     }
 
@@ -315,8 +316,8 @@ final class TermsTest {
                 if (part[0] >= 0 && part[0] <= part[1] && part[1] <= size) {
                     continue;
                 }
-                LevelRows rows = Rows.of(6, new int[size]);
-                refusedPart(size + " symbols, " + part[0] + " .. " + part[1], rows, part[0], part[1]);
+                String name = size + " symbols, " + part[0] + " .. " + part[1];
+                refusedPart(name, Rows.of(6, new int[size]), part[0], part[1]);
             }
         }
     }
@@ -331,7 +332,8 @@ final class TermsTest {
         Check.thrown(name + ", above none", Check.PLACE, () -> rows.above(from, to, GREATEST));
         Check.thrown(name + ", different", Check.PLACE, () -> rows.different(from, to));
         Check.thrown(name + ", frequent", Check.PLACE, () -> rows.frequent(from, to, 0));
-        Check.thrown(name + ", frequent none", Check.PLACE, () -> rows.frequent(from, to, GREATEST));
+        Check.thrown(name + ", frequent none", Check.PLACE,
+                () -> rows.frequent(from, to, GREATEST));
     }
 
     private static void changesNothing() {
@@ -388,7 +390,7 @@ final class TermsTest {
         return calls;
     }
 
-    /** All that can be seen of an object, of large rows at every seventh place; it is built then. */
+    /** All that can be seen, before and after all is built; of long rows every seventh place. */
     private static String seen(LevelRows rows) {
         StringBuilder seen = new StringBuilder(seenOfRow(rows));
         seen.append(" build ").append(rows.build());
