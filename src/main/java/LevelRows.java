@@ -46,7 +46,8 @@ public final class LevelRows {
     }
 
     public int put(int a, int b, int c, int d, int e, int n)
-            throws IndexOutOfBoundsException, IllegalArgumentException, UnsupportedOperationException {
+            throws IndexOutOfBoundsException, IllegalArgumentException,
+            UnsupportedOperationException {
         int given = Math.min(n, MOST_IN_PUT);
         for (int i = 0; i < given; i++) {
             checkSymbol(symbolInPut(i, a, b, c, d, e));
@@ -289,9 +290,11 @@ public final class LevelRows {
         int passed = 0;
         while (passed < to - from) {
             listed[found] = kthLeast(from, to, passed);
-            listedTimes[found] = part.length();
-            // A symbol that was found stands at least once; saying so shows that the loop ends.
-            passed += Math.max(1, part.length());
+            // Once at least and not more often than is left: so the loop is seen to end, and
+            // the number is an index that countAhead can use.
+            int times = Math.max(1, Math.min(part.length(), to - from - passed));
+            listedTimes[found] = times;
+            passed += times;
             found++;
         }
         return found;
@@ -311,7 +314,10 @@ public final class LevelRows {
         }
     }
 
-    /** One bit of every symbol; places from 0 up to the row's size (the end) are asked for alone. */
+    /**
+     * One bit of every symbol. Only places from 0 up to the row's size (the end) are asked for;
+     * that others do no harm is seen here, without a look at what the levels above hold.
+     */
     private static final class Level {
         private final long[] words = new long[MOST_WORDS];
         private final short[] onesBefore = new short[MOST_WORDS];
@@ -341,6 +347,9 @@ public final class LevelRows {
         }
 
         int bitAt(int place) {
+            if (place < 0 || place >= MOST_SYMBOLS) {
+                return 0;
+            }
             return (int) (words[place >> WORD_SHIFT] >>> place % WORD_BITS) & 1;
         }
 
@@ -353,7 +362,7 @@ public final class LevelRows {
                 return 0;
             }
             // Counted by the last place before it: the end of a full word has no word of its own.
-            int last = place - 1;
+            int last = Math.min(place, MOST_SYMBOLS) - 1;
             int word = last >> WORD_SHIFT;
             long upToLast = words[word] << WORD_BITS - 1 - last % WORD_BITS;
             return onesBefore[word] + Long.bitCount(upToLast);

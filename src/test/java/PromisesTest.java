@@ -23,6 +23,7 @@ final class PromisesTest {
         clear();
         wrongParts();
         throwingChangesNothing();
+        asInReadme();
         Check.end();
     }
 
@@ -323,5 +324,27 @@ final class PromisesTest {
         Check.due("all five", 5, rows::build);
         Check.due("the fourth", 2, () -> rows.at(3));
         Check.due("the fifth", 1, () -> rows.at(4));
+    }
+
+    /** The lines of README.md answer what it says. */
+    private static void asInReadme() {
+        LevelRows rows = new LevelRows(6);
+        Check.due("README put", 4, () -> rows.put(0x0003_0001, 0x0004_0001, 0, 0, 0, 4));
+        Check.due("README build", 4, rows::build);
+        Check.due("README at", 4, () -> rows.at(2));
+        Check.due("README rank", 1, () -> rows.rank(1, 3));
+        Check.due("README select", 3, () -> rows.select(1, 1));
+        Check.due("README quantile", 3, () -> rows.quantile(0, 4, 2));
+        Check.due("README between", 3, () -> rows.between(0, 4, 1, 4));
+        Check.due("README below", 1, () -> rows.below(0, 4, 3));
+        Check.due("README above", 3, () -> rows.above(0, 4, 2));
+        Check.due("README different", 3, () -> rows.different(0, 4));
+        Check.due("README frequent", 1, () -> rows.frequent(0, 4, 0));
+        Check.due("README select none", LevelRows.NONE, () -> rows.select(0, 0));
+        Check.due("README bits", 336, rows::bits);
+        Check.due("README count", 3, () -> rows.count(2));
+        rows.clear();
+        Check.due("README clear", 0, () -> rows.count(0));
+        Check.thrown("README at of an empty row", Check.PLACE, () -> rows.at(0));
     }
 }
